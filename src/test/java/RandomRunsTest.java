@@ -8,7 +8,7 @@ import java.util.TreeMap;
 
 /** Random runs of calls: SharedPage against a slow model that follows the document word by word. */
 public final class RandomRunsTest {
-    private static final int RUNS = 3000;
+    private static final int RUNS = 1000;
     private static final int CALLS = 512;
     private static int wrong = 0;
 
