@@ -16,6 +16,7 @@ public final class PromisesTest {
         promise2Limit();
         promise3Erase();
         promise3Limit();
+        promise3LimitOfErasesAlone();
         promise4TellInAnyOrder();
         promise4TellWoot();
         promise4TellYata();
@@ -229,12 +230,31 @@ public final class PromisesTest {
         due("3 seen", page.look(YATA, 1, 3), 20);
         due("3 the last message", page.message(YATA, 159, 2), 39);
         due("3 erased already", page.share(YATA, 1, 0, true), 40);
+        due("3 erased twice counts once", page.look(YATA, 0, 3), 0);
         due("3 others come", page.share(YATA, 0, 1, true), 60);
         due("3 same", page.same(YATA, 0, 1), true);
         due("3 all of 160", page.share(YATA, 0, 2, true), 160);
         due("3 shuffle of 160", page.shuffle(YATA, 2, 7), true);
         page.insert(WOOT, 0, 0, 'a');
         due("3 other text is free", page.erase(WOOT, 0, 0), 1);
+    }
+
+    /** The limit of the ERASES alone, with CHARACTERS yet to be made. */
+    private static void promise3LimitOfErasesAlone() {
+        for (int text = 0; text < 2; text++) {
+            SharedPage page = new SharedPage();
+            type(page, text, 0, 0, "abcdefghijklmnopqrstuvwxyzabcdefghijklmn");
+            page.share(text, 0, 1, false);
+            page.share(text, 0, 2, true);
+            for (int made = 0; made < 100; made++) {
+                due("3 ERASE " + made, page.erase(text, made / 40, 0), 40 + made);
+            }
+            due("3 ERASE 100", page.erase(text, 2, 0), -1);
+            due("3 ERASE 100 is not made", page.look(text, 2, 0), 140);
+            due("3 ERASE 100 is not done", page.look(text, 2, 3), 20);
+            due("3 INSERT still goes", page.insert(text, 2, 0, 'z'), 140);
+            due("3 of a new one", page.erase(text, 2, 0), -1);
+        }
     }
 
     private static void promise4TellInAnyOrder() {
@@ -456,6 +476,15 @@ public final class PromisesTest {
         other.insert(YATA, 1, 0, 'c');
         other.tell(YATA, 2, 3);
         due("6 YATA over another RIGHT", other.look(YATA, 2, 6), 3);
+
+        SharedPage third = new SharedPage();
+        type(third, YATA, 2, 0, "pqr");
+        type(third, YATA, 1, 0, "xy");
+        third.tell(YATA, 2, 3);
+        due("6 YATA asks none behind the same RIGHT", third.look(YATA, 2, 6), 1);
+        third.tell(YATA, 2, 4);
+        due("6 YATA asks none behind another LEFT", third.look(YATA, 2, 6), 1);
+        due("6 YATA SEQUENCE", sequence(third, YATA, 2), "xypqr");
     }
 
     private static void promise6LooksOfTheLatestCall() {
@@ -487,6 +516,17 @@ public final class PromisesTest {
         due("6 other site", page.look(WOOT, 1, 6), 0);
         page.insert(WOOT, 0, 2, 'e');
         due("6 0 LOOKS count, too", page.look(WOOT, 0, 6), 0);
+
+        SharedPage shared = new SharedPage();
+        for (int site = 0; site < 4; site++) {
+            shared.insert(WOOT, site, 0, 'a' + site);
+        }
+        shared.share(WOOT, 1, 0, true);
+        due("6 LOOKS of a share", shared.look(WOOT, 0, 6), 2);
+        shared.share(WOOT, 2, 0, true);
+        due("6 LOOKS of the next share alone", shared.look(WOOT, 0, 6), 4);
+        shared.tell(WOOT, 0, 3);
+        due("6 LOOKS of a tell behind it alone", shared.look(WOOT, 0, 6), 6);
     }
 
     private static void promise7Message() {
@@ -681,6 +721,13 @@ public final class PromisesTest {
                     due("13 site " + none, page.shuffle(text, none, seed), false);
                 }
             }
+            page.share(text, 3, 4, true);
+            page.tell(text, 2, 0);
+            page.tell(text, 2, 1);
+            page.tell(text, 2, 2);
+            due("13 a copy with one erased", page.shuffle(text, 0, 9), true);
+            due("13 then one with none erased", page.shuffle(text, 2, 9), true);
+            due("13 then one with others", page.shuffle(text, 4, 9), true);
             due("13 the copy stays", page.look(text, 0, 4), 7);
             due("13 what WAITS stays", page.look(text, 0, 5), 1);
         }
@@ -744,9 +791,9 @@ public final class PromisesTest {
             page.insert(text, 3, 0, 'c');
             page.share(text, 3, 4, true);
             due("15 SEQUENCE", sequence(page, text, 4), "qpc");
-            // The FREE ones: cqp, qpc, qcp.
-            due("15 orders", page.orders(text, 4), 3);
+            // The FREE ones: cqp, qpc, qcp. Asked with no orders() ahead of it.
             due("15 number", page.number(text, 4), 1);
+            due("15 orders", page.orders(text, 4), 3);
             page.insert(text, 0, 0, 'z');
             page.share(text, 0, 4, true);
             due("15 SEQUENCE 2", sequence(page, text, 4), "zqpc");

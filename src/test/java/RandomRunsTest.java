@@ -6,7 +6,11 @@ import java.util.Random;
 import java.util.Set;
 import java.util.TreeMap;
 
-/** Random runs of calls: SharedPage against a slow model that follows the document word by word. */
+/**
+ * Random runs of calls: SharedPage against a slow model that follows the document word by word. With
+ * the questions between them the runs are longer than the 512 calls that the document speaks for;
+ * the class counts no calls, so all of them must be right.
+ */
 public final class RandomRunsTest {
     private static final int RUNS = 1000;
     private static final int CALLS = 512;
@@ -120,6 +124,10 @@ public final class RandomRunsTest {
             page.character(text, site, i, what), plain.character(text, site, i, what));
         due(run, "same(" + text + ", " + site + ", " + of[2] + ")",
             page.same(text, site, of[2]) ? 1 : 0, plain.same(text, site, of[2]) ? 1 : 0);
+        if (plain.look(text, site, 2) < 0 || plain.look(text, site, 2) > 12) {
+            due(run, "orders(" + text + ", " + site + ")", page.orders(text, site), -1);
+            due(run, "number(" + text + ", " + site + ")", page.number(text, site), -1);
+        }
         int seed = random.nextInt();
         due(run, "shuffle(" + text + ", " + site + ", " + seed + ")",
             page.shuffle(text, site, seed) ? 1 : 0, plain.shuffle(text, site, seed) ? 1 : 0);
