@@ -1,5 +1,5 @@
 /** Each promise of the document: ordinary calls, the edges that it names, and wrong arguments. */
-public final class PromisesTest {
+public final class PromisesTest extends Checks {
     private static final int WOOT = 0;
     private static final int YATA = 1;
     private static final int BEGIN = -1;
@@ -7,7 +7,6 @@ public final class PromisesTest {
     private static final int[] NO_TEXT = {-1, 2, 3, Integer.MAX_VALUE, Integer.MIN_VALUE};
     private static final int[] NO_SITE = {-1, 5, 6, 10, Integer.MAX_VALUE, Integer.MIN_VALUE};
     private static final int[] FAR = {-1, -2, 160, 1000, Integer.MAX_VALUE, Integer.MIN_VALUE};
-    private static int wrong = 0;
 
     public static void main(String[] args) {
         promise1NewObject();
@@ -36,65 +35,12 @@ public final class PromisesTest {
         promise14Orders();
         promise14OrdersLimit();
         promise15Number();
-        System.out.println(wrong == 0 ? "all answers are as due" : wrong + " answers are not as due");
-        if (wrong != 0) {
-            System.exit(1);
-        }
-    }
-
-    private static void due(String what, long got, long want) {
-        if (got != want) {
-            wrong++;
-            System.out.println(what + " answered " + got + ", due is " + want);
-        }
-    }
-
-    private static void due(String what, boolean got, boolean want) {
-        due(what, got ? 1 : 0, want ? 1 : 0);
-    }
-
-    private static void due(String what, String got, String want) {
-        if (!got.equals(want)) {
-            wrong++;
-            System.out.println(what + " is '" + got + "', due is '" + want + "'");
-        }
-    }
-
-    /** The SEQUENCE of a copy by its letters, the erased ones in brackets. */
-    private static String sequence(SharedPage page, int text, int site) {
-        StringBuilder row = new StringBuilder();
-        for (int i = 0; i < page.look(text, site, 2); i++) {
-            char letter = (char) page.character(text, site, i, 1);
-            row.append(page.character(text, site, i, 2) == 1 ? "" + letter : "(" + letter + ")");
-        }
-        return row.toString();
-    }
-
-    private static String written(SharedPage page, int text, int site) {
-        StringBuilder row = new StringBuilder();
-        int length = page.write(text, site);
-        for (int i = 0; i < length; i++) {
-            row.append((char) page.out(i));
-        }
-        due("out behind the last", page.out(length), SharedPage.NONE);
-        return row.toString();
-    }
-
-    private static void type(SharedPage page, int text, int site, int i, String letters) {
-        for (int p = 0; p < letters.length(); p++) {
-            page.insert(text, site, i + p, letters.charAt(p));
-        }
-    }
-
-    private static void shareWithAll(SharedPage page, int text, int from) {
-        for (int site = 0; site < 5; site++) {
-            page.share(text, from, site, false);
-        }
+        end();
     }
 
     private static void promise1NewObject() {
         due("1 NONE", SharedPage.NONE, -1);
-        SharedPage page = new SharedPage();
+        Page page = new Page();
         due("1 out", page.out(0), -1);
         for (int text = 0; text < 2; text++) {
             for (int site = 0; site < 5; site++) {
@@ -106,19 +52,19 @@ public final class PromisesTest {
                 due("1 same", page.same(text, site, 4 - site), true);
             }
         }
-        SharedPage other = new SharedPage();
+        Page other = new Page();
         other.insert(WOOT, 0, 0, 'a');
         due("1 objects stand apart", page.look(WOOT, 0, 0), 0);
     }
 
     private static void promise2Insert() {
         for (int text = 0; text < 2; text++) {
-            SharedPage page = new SharedPage();
+            Page page = new Page();
             due("2 first", page.insert(text, 3, 0, 'b'), 0);
             due("2 ahead", page.insert(text, 3, 0, 'a'), 1);
             due("2 behind", page.insert(text, 3, 2, 'd'), 2);
             due("2 amid", page.insert(text, 3, 2, 'c'), 3);
-            due("2 SEQUENCE", sequence(page, text, 3), "abcd");
+            due("2 SEQUENCE", page.sequence(text, 3), "abcd");
             due("2 other site", page.look(text, 2, 2), 0);
             due("2 other text", page.look(1 - text, 3, 0), 0);
             due("2 other text's own numbers", page.insert(1 - text, 3, 0, 'z'), 0);
@@ -139,23 +85,23 @@ public final class PromisesTest {
             }
             due("2 nothing is done", page.look(text, 3, 0), 6);
             due("2 nothing is made", page.look(text, 3, 1), 6);
-            due("2 the copy stays", sequence(page, text, 3), "abcd");
+            due("2 the copy stays", page.sequence(text, 3), "abcd");
         }
     }
 
     private static void promise2InsertBesideErased() {
-        SharedPage page = new SharedPage();
+        Page page = new Page();
         for (int text = 0; text < 2; text++) {
-            type(page, text, 0, 0, "abc");
+            page.type(text, 0, 0, "abc");
             page.erase(text, 0, 1);
             due("2 place behind seen ones", page.insert(text, 0, 3, 'x'), -1);
             due("2 beside erased", page.insert(text, 0, 1, 'd'), 4);
             due("2 LEFT", page.message(text, 4, 3), 0);
         }
         due("2 WOOT: RIGHT is seen", page.message(WOOT, 4, 4), 2);
-        due("2 WOOT: erased one has the lesser MARK", sequence(page, WOOT, 0), "a(b)dc");
+        due("2 WOOT: erased one has the lesser MARK", page.sequence(WOOT, 0), "a(b)dc");
         due("2 YATA: RIGHT stands right behind", page.message(YATA, 4, 4), 1);
-        due("2 YATA: SEQUENCE", sequence(page, YATA, 0), "ad(b)c");
+        due("2 YATA: SEQUENCE", page.sequence(YATA, 0), "ad(b)c");
         for (int text = 0; text < 2; text++) {
             page.erase(text, 0, 0);
             page.erase(text, 0, 0);
@@ -166,12 +112,12 @@ public final class PromisesTest {
         }
         due("2 WOOT: RIGHT is END", page.message(WOOT, 8, 4), END);
         due("2 YATA: RIGHT is erased", page.message(YATA, 8, 4), 0);
-        due("2 YATA: ahead of all", sequence(page, YATA, 0), "e(a)(d)(b)(c)");
+        due("2 YATA: ahead of all", page.sequence(YATA, 0), "e(a)(d)(b)(c)");
     }
 
     private static void promise2Limit() {
         for (int text = 0; text < 2; text++) {
-            SharedPage page = new SharedPage();
+            Page page = new Page();
             for (int made = 0; made < 60; made++) {
                 due("2 number " + made, page.insert(text, made % 5, 0, 'a'), made);
             }
@@ -192,12 +138,12 @@ public final class PromisesTest {
 
     private static void promise3Erase() {
         for (int text = 0; text < 2; text++) {
-            SharedPage page = new SharedPage();
-            type(page, text, 1, 0, "abc");
+            Page page = new Page();
+            page.type(text, 1, 0, "abc");
             due("3 erase", page.erase(text, 1, 1), 3);
-            due("3 SEQUENCE", sequence(page, text, 1), "a(b)c");
+            due("3 SEQUENCE", page.sequence(text, 1), "a(b)c");
             due("3 place counts seen ones", page.erase(text, 1, 1), 4);
-            due("3 SEQUENCE 2", sequence(page, text, 1), "a(b)(c)");
+            due("3 SEQUENCE 2", page.sequence(text, 1), "a(b)(c)");
             for (int none : new int[] {-1, 1, 2, Integer.MAX_VALUE, Integer.MIN_VALUE}) {
                 due("3 place " + none, page.erase(text, 1, none), -1);
             }
@@ -216,8 +162,8 @@ public final class PromisesTest {
     }
 
     private static void promise3Limit() {
-        SharedPage page = new SharedPage();
-        type(page, YATA, 0, 0, "abcdefghijklmnopqrstuvwxyzabcdefghijklmnopqrstuvwxyzabcdefgh");
+        Page page = new Page();
+        page.type(YATA, 0, 0, "abcdefghijklmnopqrstuvwxyzabcdefghijklmnopqrstuvwxyzabcdefgh");
         page.share(YATA, 0, 1, false);
         for (int made = 0; made < 60; made++) {
             due("3 erase at 0", page.erase(YATA, 0, 0), 60 + made);
@@ -242,8 +188,8 @@ public final class PromisesTest {
     /** The limit of the ERASES alone, with CHARACTERS yet to be made. */
     private static void promise3LimitOfErasesAlone() {
         for (int text = 0; text < 2; text++) {
-            SharedPage page = new SharedPage();
-            type(page, text, 0, 0, "abcdefghijklmnopqrstuvwxyzabcdefghijklmn");
+            Page page = new Page();
+            page.type(text, 0, 0, "abcdefghijklmnopqrstuvwxyzabcdefghijklmn");
             page.share(text, 0, 1, false);
             page.share(text, 0, 2, true);
             for (int made = 0; made < 100; made++) {
@@ -259,8 +205,8 @@ public final class PromisesTest {
 
     private static void promise4TellInAnyOrder() {
         for (int text = 0; text < 2; text++) {
-            SharedPage page = new SharedPage();
-            type(page, text, 0, 0, "abc");
+            Page page = new Page();
+            page.type(text, 0, 0, "abc");
             page.erase(text, 0, 1);
             due("4 ERASE waits", page.tell(text, 1, 3), 0);
             due("4 waits for its LEFT", page.tell(text, 1, 2), 0);
@@ -269,14 +215,14 @@ public final class PromisesTest {
             due("4 first", page.tell(text, 1, 0), 1);
             due("4 the rest wakes", page.tell(text, 1, 1), 3);
             due("4 told again", page.tell(text, 1, 1), 0);
-            due("4 SEQUENCE", sequence(page, text, 1), "a(b)c");
+            due("4 SEQUENCE", page.sequence(text, 1), "a(b)c");
             due("4 own message", page.tell(text, 0, 0), 0);
             page.insert(text, 1, 0, 'z');
             page.insert(text, 1, 1, 'y');
             due("4 waits for its RIGHT and LEFT", page.tell(text, 0, 5), 0);
             due("4 wakes", page.tell(text, 0, 4), 2);
             due("4 same", page.same(text, 0, 1), true);
-            due("4 SEQUENCE of both", sequence(page, text, 0), "zya(b)c");
+            due("4 SEQUENCE of both", page.sequence(text, 0), "zya(b)c");
             page.insert(text, 2, 0, 'q');
             due("4 waits for its RIGHT alone", page.tell(text, 2, 4), 0);
             due("4 its RIGHT comes", page.tell(text, 2, 0), 2);
@@ -284,51 +230,51 @@ public final class PromisesTest {
     }
 
     private static void promise4TellWoot() {
-        SharedPage page = new SharedPage();
-        type(page, WOOT, 0, 0, "ab");
-        shareWithAll(page, WOOT, 0);
+        Page page = new Page();
+        page.type(WOOT, 0, 0, "ab");
+        page.shareWithAll(WOOT, 0);
         due("4 x", page.insert(WOOT, 1, 1, 'x'), 2);
         due("4 y", page.insert(WOOT, 1, 1, 'y'), 3);
         due("4 p", page.insert(WOOT, 2, 1, 'p'), 4);
         due("4 WOOT waits", page.tell(WOOT, 2, 3), 0);
         due("4 WOOT wakes", page.tell(WOOT, 2, 2), 2);
-        due("4 WOOT lesser MARK ahead", sequence(page, WOOT, 2), "ayxpb");
+        due("4 WOOT lesser MARK ahead", page.sequence(WOOT, 2), "ayxpb");
         due("4 WOOT told p", page.tell(WOOT, 1, 4), 1);
-        due("4 WOOT y is not in the ROW", sequence(page, WOOT, 1), "ayxpb");
+        due("4 WOOT y is not in the ROW", page.sequence(WOOT, 1), "ayxpb");
 
-        SharedPage other = new SharedPage();
+        Page other = new Page();
         other.insert(WOOT, 2, 0, 'p');
         other.insert(WOOT, 4, 0, 'r');
         other.tell(WOOT, 4, 0);
-        due("4 WOOT by MARKS", sequence(other, WOOT, 4), "pr");
+        due("4 WOOT by MARKS", other.sequence(WOOT, 4), "pr");
         other.insert(WOOT, 3, 0, 'c');
         other.tell(WOOT, 4, 2);
-        due("4 WOOT between MARKS", sequence(other, WOOT, 4), "pcr");
+        due("4 WOOT between MARKS", other.sequence(WOOT, 4), "pcr");
     }
 
     private static void promise4TellYata() {
-        SharedPage page = new SharedPage();
-        type(page, YATA, 0, 0, "a");
-        shareWithAll(page, YATA, 0);
-        type(page, YATA, 1, 1, "xy");
+        Page page = new Page();
+        page.type(YATA, 0, 0, "a");
+        page.shareWithAll(YATA, 0);
+        page.type(YATA, 1, 1, "xy");
         page.insert(YATA, 2, 1, 'p');
         due("4 YATA told p", page.tell(YATA, 1, 3), 1);
-        due("4 YATA behind all of the lesser site's", sequence(page, YATA, 1), "axyp");
+        due("4 YATA behind all of the lesser site's", page.sequence(YATA, 1), "axyp");
         due("4 YATA told x", page.tell(YATA, 2, 1), 1);
-        due("4 YATA ahead of the greater site's", sequence(page, YATA, 2), "axp");
+        due("4 YATA ahead of the greater site's", page.sequence(YATA, 2), "axp");
         due("4 YATA told y", page.tell(YATA, 2, 2), 1);
         due("4 YATA same", page.same(YATA, 1, 2), true);
 
-        SharedPage other = new SharedPage();
+        Page other = new Page();
         other.insert(YATA, 2, 0, 'p');
         other.insert(YATA, 2, 0, 's');
         other.insert(YATA, 2, 1, 't');
         other.insert(YATA, 1, 0, 'c');
         other.insert(YATA, 3, 0, 'd');
         other.tell(YATA, 2, 3);
-        due("4 YATA ahead of OPEN ones", sequence(other, YATA, 2), "cstp");
+        due("4 YATA ahead of OPEN ones", other.sequence(YATA, 2), "cstp");
         other.tell(YATA, 2, 4);
-        due("4 YATA behind the lesser sites", sequence(other, YATA, 2), "cstpd");
+        due("4 YATA behind the lesser sites", other.sequence(YATA, 2), "cstpd");
         other.share(YATA, 2, 3, true);
         due("4 YATA same for site 3", other.same(YATA, 2, 3), true);
         other.share(YATA, 2, 1, false);
@@ -336,7 +282,7 @@ public final class PromisesTest {
     }
 
     private static void promise4TellWrong() {
-        SharedPage page = new SharedPage();
+        Page page = new Page();
         page.insert(WOOT, 0, 0, 'a');
         for (int none : NO_TEXT) {
             due("4 text " + none, page.tell(none, 1, 0), -1);
@@ -354,8 +300,8 @@ public final class PromisesTest {
 
     private static void promise5Share() {
         for (int text = 0; text < 2; text++) {
-            SharedPage page = new SharedPage();
-            type(page, text, 0, 0, "abc");
+            Page page = new Page();
+            page.type(text, 0, 0, "abc");
             page.erase(text, 0, 0);
             due("5 down", page.share(text, 0, 1, true), 4);
             due("5 up", page.share(text, 0, 2, false), 4);
@@ -368,7 +314,7 @@ public final class PromisesTest {
             page.tell(text, 3, 4);
             due("5 what WAITS is not told on", page.share(text, 3, 4, true), 0);
             due("5 what WAITED is counted", page.share(text, 0, 3, false), 5);
-            due("5 SEQUENCE", sequence(page, text, 3), "(a)bcd");
+            due("5 SEQUENCE", page.sequence(text, 3), "(a)bcd");
             due("5 other site stays", page.look(text, 4, 4), 0);
             due("5 only what is DONE there", page.share(text, 2, 4, true), 4);
             for (int none : NO_TEXT) {
@@ -379,7 +325,7 @@ public final class PromisesTest {
                 due("5 to " + none, page.share(text, 0, none, false), -1);
             }
         }
-        SharedPage page = new SharedPage();
+        Page page = new Page();
         page.insert(WOOT, 0, 0, 'a');
         page.insert(WOOT, 1, 0, 'b');
         page.insert(WOOT, 2, 0, 'c');
@@ -394,8 +340,8 @@ public final class PromisesTest {
 
     private static void promise6Look() {
         for (int text = 0; text < 2; text++) {
-            SharedPage page = new SharedPage();
-            type(page, text, 0, 0, "abc");
+            Page page = new Page();
+            page.type(text, 0, 0, "abc");
             page.erase(text, 0, 1);
             page.erase(text, 0, 1);
             page.tell(text, 1, 0);
@@ -420,7 +366,7 @@ public final class PromisesTest {
     }
 
     private static void promise6LooksOfWoot() {
-        SharedPage page = new SharedPage();
+        Page page = new Page();
         page.insert(WOOT, 0, 0, 'a');
         page.insert(WOOT, 1, 0, 'b');
         page.insert(WOOT, 2, 0, 'c');
@@ -431,9 +377,9 @@ public final class PromisesTest {
         page.tell(WOOT, 2, 0);
         due("6 asked and not below", page.look(WOOT, 2, 6), 2);
 
-        SharedPage other = new SharedPage();
-        type(other, WOOT, 0, 0, "ab");
-        shareWithAll(other, WOOT, 0);
+        Page other = new Page();
+        other.type(WOOT, 0, 0, "ab");
+        other.shareWithAll(WOOT, 0);
         other.insert(WOOT, 1, 1, 'x');
         other.insert(WOOT, 1, 1, 'y');
         other.insert(WOOT, 2, 1, 'p');
@@ -443,10 +389,10 @@ public final class PromisesTest {
         // k between a and b: y x p are three, x is asked; then y alone is between a and x, and asked.
         other.tell(WOOT, 1, 5);
         due("6 each time", other.look(WOOT, 1, 6), 6);
-        due("6 SEQUENCE", sequence(other, WOOT, 1), "akyxpb");
+        due("6 SEQUENCE", other.sequence(WOOT, 1), "akyxpb");
 
-        SharedPage own = new SharedPage();
-        type(own, WOOT, 0, 0, "ab");
+        Page own = new Page();
+        own.type(WOOT, 0, 0, "ab");
         own.erase(WOOT, 0, 0);
         own.insert(WOOT, 0, 0, 'c');
         due("6 own INSERT across an erased one", own.look(WOOT, 0, 6), 2);
@@ -455,10 +401,10 @@ public final class PromisesTest {
     }
 
     private static void promise6LooksOfYata() {
-        SharedPage page = new SharedPage();
-        type(page, YATA, 0, 0, "a");
-        shareWithAll(page, YATA, 0);
-        type(page, YATA, 1, 1, "xy");
+        Page page = new Page();
+        page.type(YATA, 0, 0, "a");
+        page.shareWithAll(YATA, 0);
+        page.type(YATA, 1, 1, "xy");
         page.insert(YATA, 2, 1, 'p');
         page.tell(YATA, 1, 3);
         due("6 YATA behind both", page.look(YATA, 1, 6), 2);
@@ -469,7 +415,7 @@ public final class PromisesTest {
         page.insert(YATA, 2, 0, 'q');
         due("6 YATA own INSERT", page.look(YATA, 2, 6), 0);
 
-        SharedPage other = new SharedPage();
+        Page other = new Page();
         other.insert(YATA, 2, 0, 'p');
         other.insert(YATA, 2, 0, 's');
         other.insert(YATA, 2, 1, 't');
@@ -477,18 +423,18 @@ public final class PromisesTest {
         other.tell(YATA, 2, 3);
         due("6 YATA over another RIGHT", other.look(YATA, 2, 6), 3);
 
-        SharedPage third = new SharedPage();
-        type(third, YATA, 2, 0, "pqr");
-        type(third, YATA, 1, 0, "xy");
+        Page third = new Page();
+        third.type(YATA, 2, 0, "pqr");
+        third.type(YATA, 1, 0, "xy");
         third.tell(YATA, 2, 3);
         due("6 YATA asks none behind the same RIGHT", third.look(YATA, 2, 6), 1);
         third.tell(YATA, 2, 4);
         due("6 YATA asks none behind another LEFT", third.look(YATA, 2, 6), 1);
-        due("6 YATA SEQUENCE", sequence(third, YATA, 2), "xypqr");
+        due("6 YATA SEQUENCE", third.sequence(YATA, 2), "xypqr");
     }
 
     private static void promise6LooksOfTheLatestCall() {
-        SharedPage page = new SharedPage();
+        Page page = new Page();
         page.insert(WOOT, 0, 0, 'a');
         page.insert(WOOT, 1, 0, 'b');
         page.tell(WOOT, 0, 1);
@@ -517,7 +463,7 @@ public final class PromisesTest {
         page.insert(WOOT, 0, 2, 'e');
         due("6 0 LOOKS count, too", page.look(WOOT, 0, 6), 0);
 
-        SharedPage shared = new SharedPage();
+        Page shared = new Page();
         for (int site = 0; site < 4; site++) {
             shared.insert(WOOT, site, 0, 'a' + site);
         }
@@ -531,7 +477,7 @@ public final class PromisesTest {
 
     private static void promise7Message() {
         for (int text = 0; text < 2; text++) {
-            SharedPage page = new SharedPage();
+            Page page = new Page();
             page.insert(text, 2, 0, 'a');
             page.insert(text, 2, 1, 'c');
             page.share(text, 2, 4, true);
@@ -564,8 +510,8 @@ public final class PromisesTest {
 
     private static void promise8State() {
         for (int text = 0; text < 2; text++) {
-            SharedPage page = new SharedPage();
-            type(page, text, 0, 0, "ab");
+            Page page = new Page();
+            page.type(text, 0, 0, "ab");
             due("8 DONE at the maker", page.state(text, 0, 1), 2);
             due("8 neither", page.state(text, 1, 1), 0);
             page.tell(text, 1, 1);
@@ -590,8 +536,8 @@ public final class PromisesTest {
 
     private static void promise9Character() {
         for (int text = 0; text < 2; text++) {
-            SharedPage page = new SharedPage();
-            type(page, text, 3, 0, "ac");
+            Page page = new Page();
+            page.type(text, 3, 0, "ac");
             page.insert(text, 3, 1, 'b');
             page.erase(text, 3, 0);
             page.erase(text, 3, 1);
@@ -626,10 +572,10 @@ public final class PromisesTest {
 
     private static void promise10Write() {
         for (int text = 0; text < 2; text++) {
-            SharedPage page = new SharedPage();
-            type(page, text, 0, 0, "hello");
+            Page page = new Page();
+            page.type(text, 0, 0, "hello");
             due("10 write", page.write(text, 0), 5);
-            due("10 OUT", written(page, text, 0), "hello");
+            due("10 OUT", page.allOut(), "hello");
             page.erase(text, 0, 1);
             due("10 OUT stays till it is written", page.out(1), 'e');
             for (int none : NO_TEXT) {
@@ -642,16 +588,16 @@ public final class PromisesTest {
             page.shuffle(text, 0, 1);
             due("10 shuffle leaves OUT", page.out(1), 'e');
             due("10 write again", page.write(text, 0), 4);
-            due("10 OUT without the erased one", written(page, text, 0), "hllo");
+            due("10 OUT without the erased one", page.allOut(), "hllo");
             due("10 empty copy", page.write(text, 1), 0);
             due("10 OUT is empty", page.out(0), -1);
         }
     }
 
     private static void promise11Out() {
-        SharedPage page = new SharedPage();
+        Page page = new Page();
         due("11 empty", page.out(0), -1);
-        type(page, YATA, 0, 0, " ~");
+        page.type(YATA, 0, 0, " ~");
         due("11 nothing is written yet", page.out(0), -1);
         page.write(YATA, 0);
         due("11 byte 0", page.out(0), 32);
@@ -663,7 +609,7 @@ public final class PromisesTest {
 
     private static void promise12Same() {
         for (int text = 0; text < 2; text++) {
-            SharedPage page = new SharedPage();
+            Page page = new Page();
             due("12 empty ones", page.same(text, 0, 4), true);
             page.insert(text, 0, 0, 'a');
             page.insert(text, 1, 0, 'a');
@@ -700,15 +646,15 @@ public final class PromisesTest {
     private static void promise13Shuffle() {
         int[] seeds = {0, 1, -1, 5, 12345, Integer.MAX_VALUE, Integer.MIN_VALUE};
         for (int text = 0; text < 2; text++) {
-            SharedPage page = new SharedPage();
+            Page page = new Page();
             due("13 empty", page.shuffle(text, 0, 0), true);
-            type(page, text, 0, 0, "abc");
+            page.type(text, 0, 0, "abc");
             page.erase(text, 0, 1);
-            type(page, text, 1, 0, "xy");
+            page.type(text, 1, 0, "xy");
             page.share(text, 0, 1, true);
-            type(page, text, 1, 2, "z");
+            page.type(text, 1, 2, "z");
             page.share(text, 1, 0, false);
-            type(page, text, 3, 0, "mn");
+            page.type(text, 3, 0, "mn");
             page.tell(text, 0, 8);
             for (int seed : seeds) {
                 for (int site = 0; site < 5; site++) {
@@ -735,9 +681,9 @@ public final class PromisesTest {
 
     private static void promise14Orders() {
         for (int text = 0; text < 2; text++) {
-            SharedPage page = new SharedPage();
+            Page page = new Page();
             due("14 empty", page.orders(text, 0), 1);
-            type(page, text, 0, 0, "abc");
+            page.type(text, 0, 0, "abc");
             due("14 a chain", page.orders(text, 0), 1);
             page.erase(text, 0, 1);
             due("14 erased ones count", page.orders(text, 0), 1);
@@ -760,7 +706,7 @@ public final class PromisesTest {
     }
 
     private static void promise14OrdersLimit() {
-        SharedPage page = new SharedPage();
+        Page page = new Page();
         long factorial = 1;
         for (int n = 1; n <= 12; n++) {
             factorial *= n;
@@ -773,7 +719,7 @@ public final class PromisesTest {
         due("14 thirteen, all but one erased", page.orders(WOOT, 0), -1);
         due("15 thirteen", page.number(WOOT, 0), -1);
         due("14 another copy", page.orders(WOOT, 1), 1);
-        type(page, YATA, 0, 0, "abcdefghijkl");
+        page.type(YATA, 0, 0, "abcdefghijkl");
         due("14 twelve in a chain", page.orders(YATA, 0), 1);
         page.insert(YATA, 0, 12, 'm');
         due("14 thirteen in a chain", page.orders(YATA, 0), -1);
@@ -782,7 +728,7 @@ public final class PromisesTest {
 
     private static void promise15Number() {
         for (int text = 0; text < 2; text++) {
-            SharedPage page = new SharedPage();
+            Page page = new Page();
             due("15 empty", page.number(text, 0), 0);
             page.insert(text, 2, 0, 'p');
             page.share(text, 2, 4, true);
@@ -790,18 +736,18 @@ public final class PromisesTest {
             due("15 RIGHT binds", page.number(text, 4), 0);
             page.insert(text, 3, 0, 'c');
             page.share(text, 3, 4, true);
-            due("15 SEQUENCE", sequence(page, text, 4), "qpc");
+            due("15 SEQUENCE", page.sequence(text, 4), "qpc");
             // The FREE ones: cqp, qpc, qcp. Asked with no orders() ahead of it.
             due("15 number", page.number(text, 4), 1);
             due("15 orders", page.orders(text, 4), 3);
             page.insert(text, 0, 0, 'z');
             page.share(text, 0, 4, true);
-            due("15 SEQUENCE 2", sequence(page, text, 4), "zqpc");
+            due("15 SEQUENCE 2", page.sequence(text, 4), "zqpc");
             // z bears the least MARK of all: those that begin with it come first.
             due("15 orders 2", page.orders(text, 4), 12);
             due("15 number 2", page.number(text, 4), 1);
             page.insert(text, 4, 0, 'w');
-            due("15 SEQUENCE 3", sequence(page, text, 4), "wzqpc");
+            due("15 SEQUENCE 3", page.sequence(text, 4), "wzqpc");
             // w stands ahead of z, q of p. Ahead of it come those that begin with c (two chains of two:
             // 6) and with q (p, c and the chain wz: 12), and wzcqp.
             due("15 orders 3", page.orders(text, 4), 30);

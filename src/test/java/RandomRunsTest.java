@@ -1,207 +1,195 @@
 import java.util.ArrayList;
 import java.util.Collections;
+import java.util.HashMap;
 import java.util.HashSet;
 import java.util.List;
+import java.util.Map;
 import java.util.Random;
 import java.util.Set;
 import java.util.TreeMap;
 
 /**
- * Random runs of calls: SharedPage against a slow model that follows the document word by word. With
- * the questions between them the runs are longer than the 512 calls that the document speaks for;
- * the class counts no calls, so all of them must be right.
+ * Random runs of 512 calls, as many as the document speaks for: SharedPage against a slow model that
+ * follows the document word by word.
  */
-public final class RandomRunsTest {
-    private static final int RUNS = 1000;
-    private static final int CALLS = 512;
-    private static int wrong = 0;
+public final class RandomRunsTest extends Checks {
+    private static final int LONG_RUNS = 3000;
+    private static final int SHORT_RUNS = 2000;
+    private static final int MOST_FAULTS = 20;
+    private static final int[] STRANGE = {-1, -2, 2, 5, 6, 12, 13, 60, 100, 160, 1000, Integer.MAX_VALUE,
+        Integer.MIN_VALUE};
+    private static final int[] NO_LETTER = {31, 127, -1, 97 + 256, 0, Integer.MAX_VALUE, Integer.MIN_VALUE};
+
+    private final Random random;
+    private final Page page = new Page();
+    private final PlainPage plain = new PlainPage();
+
+    private RandomRunsTest(long seed) {
+        random = new Random(seed);
+    }
 
     public static void main(String[] args) {
-        for (int run = 0; run < RUNS && wrong < 20; run++) {
-            play(run);
+        for (int run = 0; run < LONG_RUNS && faults() < MOST_FAULTS; run++) {
+            sentence("long run " + run);
+            new RandomRunsTest(run).playLong();
         }
-        for (int run = 0; run < 300 && wrong < 20; run++) {
-            playSmall(run);
+        for (int run = 0; run < SHORT_RUNS && faults() < MOST_FAULTS; run++) {
+            sentence("short run " + run);
+            new RandomRunsTest(1_000_000L + run).playShort();
         }
-        System.out.println(wrong == 0 ? "all answers are as due" : wrong + " answers are not as due");
-        if (wrong != 0) {
-            System.exit(1);
-        }
+        end();
     }
 
-    private static void due(int run, String call, long got, long want) {
-        if (got != want) {
-            wrong++;
-            System.out.println("run " + run + ": " + call + " answered " + got + ", due is " + want);
-        }
-    }
-
-    /** A long run: all kinds of calls, now and then with arguments that are out of bounds. */
-    private static void play(int run) {
-        Random random = new Random(run);
-        SharedPage page = new SharedPage();
-        PlainPage plain = new PlainPage();
-        int heavy = random.nextInt(4);
+    /** Many letters: calls that change something among calls that ask, then only such as ask. */
+    private void playLong() {
+        int inserts = 1 + random.nextInt(5);
         int texts = 1 + random.nextInt(2);
         int firstText = random.nextInt(2);
-        for (int call = 0; call < CALLS && wrong < 20; call++) {
-            int text = (firstText + random.nextInt(texts)) % 2;
-            step(run, page, plain, random, odd(random, text), heavy);
+        int asking = random.nextInt(300);
+        int asksOfTen = random.nextInt(6);
+        while (page.remaining() > 0 && faults() < MOST_FAULTS) {
+            int text = odd((firstText + random.nextInt(texts)) % 2);
+            if (page.remaining() < asking || random.nextInt(10) < asksOfTen) {
+                ask(text, odd(random.nextInt(5)));
+            } else {
+                change(text, inserts);
+            }
         }
-        compareAll(run, page, plain);
     }
 
-    /** A short run of few letters, where every FREE order can be written down. */
-    private static void playSmall(int run) {
-        Random random = new Random(1_000_000L + run);
-        SharedPage page = new SharedPage();
-        PlainPage plain = new PlainPage();
+    /** At most 13 letters, so that nearly each copy has FREE orders to be counted. */
+    private void playShort() {
         int text = random.nextInt(2);
-        int letters = 1 + random.nextInt(7);
+        int letters = 1 + random.nextInt(13);
+        int tells = random.nextInt(5);
         for (int made = 0; made < letters; made++) {
             int site = random.nextInt(5);
-            for (int t = random.nextInt(3); t > 0; t--) {
-                tell(run, page, plain, text, random.nextInt(5), random.nextInt(made + 1));
+            for (int t = 0; t < tells; t++) {
+                tell(text, random.nextInt(5), random.nextInt(made + 1));
             }
-            insert(run, page, plain, text, site, random.nextInt(plain.seen(text, site).size() + 1), 'a' + made);
+            insert(text, site, random.nextInt(plain.seen(text, site).size() + 1), 'a' + made);
             if (random.nextInt(3) == 0) {
-                erase(run, page, plain, text, site, random.nextInt(2));
+                erase(text, site, random.nextInt(2));
             }
-            for (int s = 0; s < 5; s++) {
-                due(run, "orders(" + text + ", " + s + ")", page.orders(text, s), plain.orders(text, s));
-                due(run, "number(" + text + ", " + s + ")", page.number(text, s), plain.number(text, s));
-            }
+            askForOrders(text, random.nextInt(5));
         }
-        for (int s = 1; s < 5; s++) {
-            share(run, page, plain, text, s, 0, random.nextBoolean());
+        for (int site = 1; site < 5; site++) {
+            share(text, site, 0, random.nextBoolean());
+            askForOrders(text, 0);
         }
-        due(run, "orders(" + text + ", 0)", page.orders(text, 0), plain.orders(text, 0));
-        due(run, "number(" + text + ", 0)", page.number(text, 0), plain.number(text, 0));
-        compareAll(run, page, plain);
+        while (page.remaining() > 2 && faults() < MOST_FAULTS) {
+            ask(text, random.nextInt(5));
+        }
     }
 
-    private static int odd(Random random, int usual) {
-        int[] strange = {-1, -2, 2, 5, 6, 60, 100, 160, 1000, Integer.MAX_VALUE, Integer.MIN_VALUE};
-        return random.nextInt(60) == 0 ? strange[random.nextInt(strange.length)] : usual;
+    private int odd(int usual) {
+        return random.nextInt(60) == 0 ? STRANGE[random.nextInt(STRANGE.length)] : usual;
     }
 
-    private static void step(int run, SharedPage page, PlainPage plain, Random random, int text, int heavy) {
-        int site = odd(random, random.nextInt(5));
-        int other = odd(random, random.nextInt(5));
-        int k = odd(random, random.nextInt(plain.messages(text) + 1));
-        int what = odd(random, random.nextInt(8));
+    /** A number from -1 to one beyond the last of so many. */
+    private int around(int many) {
+        return odd(random.nextInt(8) == 0 ? random.nextInt(many + 2) - 1 : random.nextInt(many + 1));
+    }
+
+    private void change(int text, int inserts) {
+        int site = odd(random.nextInt(5));
         int seen = plain.seen(text, site).size();
         int kind = random.nextInt(20);
-        if (kind < 5 - heavy) {
-            int[] letters = {31, 127, -1, 97 + 256, 0};
-            int letter = random.nextInt(40) == 0 ? letters[random.nextInt(5)] : 32 + random.nextInt(95);
-            insert(run, page, plain, text, site, odd(random, random.nextInt(seen + 1)), letter);
+        if (kind < inserts) {
+            int letter = random.nextInt(40) == 0 ? NO_LETTER[random.nextInt(NO_LETTER.length)] : 32 + random.nextInt(95);
+            insert(text, site, around(seen), letter);
         } else if (kind < 7) {
-            erase(run, page, plain, text, site, odd(random, random.nextInt(seen + 1)));
-        } else if (kind < 14) {
-            tell(run, page, plain, text, site, k);
-        } else if (kind < 15) {
-            share(run, page, plain, text, site, other, random.nextBoolean());
+            erase(text, site, around(seen));
+        } else if (kind < 18) {
+            tell(text, site, around(plain.messages(text)));
         } else {
-            ask(run, page, plain, random, new int[] {text, site, other, k, what});
+            share(text, odd(random.nextInt(5)), site, random.nextBoolean());
+        }
+        if (page.remaining() > 0 && random.nextInt(3) == 0) {
+            look(text, site, random.nextBoolean() ? 6 : random.nextInt(7));
         }
     }
 
-    private static void ask(int run, SharedPage page, PlainPage plain, Random random, int[] of) {
-        int text = of[0];
-        int site = of[1];
-        int what = of[4];
-        due(run, "look(" + text + ", " + site + ", " + what + ")",
-            page.look(text, site, what), plain.look(text, site, what));
-        due(run, "message(" + text + ", " + of[3] + ", " + what + ")",
-            page.message(text, of[3], what), plain.message(text, of[3], what));
-        due(run, "state(" + text + ", " + site + ", " + of[3] + ")",
-            page.state(text, site, of[3]), plain.state(text, site, of[3]));
-        due(run, "write(" + text + ", " + site + ")", page.write(text, site), plain.write(text, site));
-        int i = odd(random, random.nextInt(30));
-        due(run, "out(" + i + ")", page.out(i), plain.out(i));
-        due(run, "character(" + text + ", " + site + ", " + i + ", " + what + ")",
-            page.character(text, site, i, what), plain.character(text, site, i, what));
-        due(run, "same(" + text + ", " + site + ", " + of[2] + ")",
-            page.same(text, site, of[2]) ? 1 : 0, plain.same(text, site, of[2]) ? 1 : 0);
-        if (plain.look(text, site, 2) < 0 || plain.look(text, site, 2) > 12) {
-            due(run, "orders(" + text + ", " + site + ")", page.orders(text, site), -1);
-            due(run, "number(" + text + ", " + site + ")", page.number(text, site), -1);
+    private void ask(int text, int site) {
+        int other = odd(random.nextInt(5));
+        int k = around(plain.messages(text));
+        int i = around(Math.max(0, plain.look(text, site, 2)));
+        switch (random.nextInt(10)) {
+            case 0: look(text, site, around(7)); break;
+            case 1: message(text, k, around(6)); break;
+            case 2: state(text, site, k); break;
+            case 3: character(text, site, i, around(5)); break;
+            case 4: due("write(" + text + ", " + site + ")", page.write(text, site), plain.write(text, site)); break;
+            case 5: out(around(plain.out.size())); break;
+            case 6: same(text, site, other); break;
+            case 7: shuffle(text, site, random.nextInt()); break;
+            case 8: orders(text, site); break;
+            default: number(text, site); break;
         }
-        int seed = random.nextInt();
-        due(run, "shuffle(" + text + ", " + site + ", " + seed + ")",
-            page.shuffle(text, site, seed) ? 1 : 0, plain.shuffle(text, site, seed) ? 1 : 0);
     }
 
-    private static void insert(int run, SharedPage page, PlainPage plain, int text, int site, int i, int letter) {
-        due(run, "insert(" + text + ", " + site + ", " + i + ", " + letter + ")",
+    private void askForOrders(int text, int site) {
+        orders(text, site);
+        number(text, site);
+    }
+
+    private void insert(int text, int site, int i, int letter) {
+        due("insert(" + text + ", " + site + ", " + i + ", " + letter + ")",
             page.insert(text, site, i, letter), plain.insert(text, site, i, letter));
-        compareLooks(run, page, plain, text, site);
     }
 
-    private static void erase(int run, SharedPage page, PlainPage plain, int text, int site, int i) {
-        due(run, "erase(" + text + ", " + site + ", " + i + ")",
+    private void erase(int text, int site, int i) {
+        due("erase(" + text + ", " + site + ", " + i + ")",
             page.erase(text, site, i), plain.erase(text, site, i));
-        compareLooks(run, page, plain, text, site);
     }
 
-    private static void tell(int run, SharedPage page, PlainPage plain, int text, int site, int k) {
-        due(run, "tell(" + text + ", " + site + ", " + k + ")",
-            page.tell(text, site, k), plain.tell(text, site, k));
-        compareLooks(run, page, plain, text, site);
+    private void tell(int text, int site, int k) {
+        due("tell(" + text + ", " + site + ", " + k + ")", page.tell(text, site, k), plain.tell(text, site, k));
     }
 
-    private static void share(int run, SharedPage page, PlainPage plain, int text, int from, int to, boolean down) {
-        due(run, "share(" + text + ", " + from + ", " + to + ", " + down + ")",
+    private void share(int text, int from, int to, boolean down) {
+        due("share(" + text + ", " + from + ", " + to + ", " + down + ")",
             page.share(text, from, to, down), plain.share(text, from, to, down));
-        compareLooks(run, page, plain, text, to);
     }
 
-    private static void compareLooks(int run, SharedPage page, PlainPage plain, int text, int site) {
-        for (int what = 0; what <= 6; what++) {
-            due(run, "look(" + text + ", " + site + ", " + what + ")",
-                page.look(text, site, what), plain.look(text, site, what));
-        }
+    private void look(int text, int site, int what) {
+        due("look(" + text + ", " + site + ", " + what + ")",
+            page.look(text, site, what), plain.look(text, site, what));
     }
 
-    private static void compareAll(int run, SharedPage page, PlainPage plain) {
-        for (int text = 0; text < 2; text++) {
-            for (int k = 0; k <= plain.messages(text); k++) {
-                for (int what = -1; what <= 6; what++) {
-                    due(run, "message(" + text + ", " + k + ", " + what + ")",
-                        page.message(text, k, what), plain.message(text, k, what));
-                }
-            }
-            for (int site = 0; site < 5; site++) {
-                compareCopy(run, page, plain, text, site);
-            }
-        }
+    private void message(int text, int k, int what) {
+        due("message(" + text + ", " + k + ", " + what + ")",
+            page.message(text, k, what), plain.message(text, k, what));
     }
 
-    private static void compareCopy(int run, SharedPage page, PlainPage plain, int text, int site) {
-        compareLooks(run, page, plain, text, site);
-        for (int k = 0; k <= plain.messages(text); k++) {
-            due(run, "state(" + text + ", " + site + ", " + k + ")",
-                page.state(text, site, k), plain.state(text, site, k));
-        }
-        for (int i = -1; i <= plain.look(text, site, 2); i++) {
-            for (int what = -1; what <= 5; what++) {
-                due(run, "character(" + text + ", " + site + ", " + i + ", " + what + ")",
-                    page.character(text, site, i, what), plain.character(text, site, i, what));
-            }
-        }
-        due(run, "write(" + text + ", " + site + ")", page.write(text, site), plain.write(text, site));
-        for (int i = -1; i <= 60; i++) {
-            due(run, "out(" + i + ")", page.out(i), plain.out(i));
-        }
-        for (int b = 0; b < 5; b++) {
-            due(run, "same(" + text + ", " + site + ", " + b + ")",
-                page.same(text, site, b) ? 1 : 0, plain.same(text, site, b) ? 1 : 0);
-        }
-        for (int seed = 0; seed < 3; seed++) {
-            due(run, "shuffle(" + text + ", " + site + ", " + seed + ")",
-                page.shuffle(text, site, seed) ? 1 : 0, plain.shuffle(text, site, seed) ? 1 : 0);
-        }
+    private void state(int text, int site, int k) {
+        due("state(" + text + ", " + site + ", " + k + ")", page.state(text, site, k), plain.state(text, site, k));
+    }
+
+    private void character(int text, int site, int i, int what) {
+        due("character(" + text + ", " + site + ", " + i + ", " + what + ")",
+            page.character(text, site, i, what), plain.character(text, site, i, what));
+    }
+
+    private void out(int i) {
+        due("out(" + i + ")", page.out(i), plain.out(i));
+    }
+
+    private void same(int text, int a, int b) {
+        due("same(" + text + ", " + a + ", " + b + ")", page.same(text, a, b), plain.same(text, a, b));
+    }
+
+    private void shuffle(int text, int site, int seed) {
+        due("shuffle(" + text + ", " + site + ", " + seed + ")",
+            page.shuffle(text, site, seed), plain.shuffle(text, site, seed));
+    }
+
+    private void orders(int text, int site) {
+        due("orders(" + text + ", " + site + ")", page.orders(text, site), plain.orders(text, site));
+    }
+
+    private void number(int text, int site) {
+        due("number(" + text + ", " + site + ")", page.number(text, site), plain.number(text, site));
     }
 
     /** A CHARACTER; BEGIN and END are such, too. */
@@ -393,6 +381,8 @@ public final class RandomRunsTest {
     }
 
     private static final class PlainPage {
+        /** So many letters can be written down in every order. */
+        static final int FEW = 6;
         final PlainText[] texts = {new PlainText(true), new PlainText(false)};
         List<Integer> out = new ArrayList<>();
 
@@ -547,9 +537,42 @@ public final class RandomRunsTest {
             return built.row.equals(copy.row) && built.erased.equals(copy.erased) && built.waiting.isEmpty();
         }
 
+        long orders(int text, int site) {
+            PlainCopy copy = copy(text, site);
+            if (copy == null || copy.row.size() - 2 > 12) {
+                return -1;
+            }
+            List<Letter> all = copy.row.subList(1, copy.row.size() - 1);
+            return all.size() <= FEW ? everyOrder(all).size() : behind(new HashSet<>(), all, new HashMap<>());
+        }
+
+        long number(int text, int site) {
+            PlainCopy copy = copy(text, site);
+            if (copy == null || copy.row.size() - 2 > 12) {
+                return -1;
+            }
+            List<Letter> all = copy.row.subList(1, copy.row.size() - 1);
+            if (all.size() <= FEW) {
+                return everyOrder(all).indexOf(all);
+            }
+            Map<Set<Letter>, Long> known = new HashMap<>();
+            long number = 0;
+            for (int at = 0; at < all.size(); at++) {
+                Set<Letter> ahead = new HashSet<>(all.subList(0, at));
+                for (Letter c : all) {
+                    if (c.mark < all.get(at).mark && mayFollow(ahead, c, all)) {
+                        ahead.add(c);
+                        number += behind(ahead, all, known);
+                        ahead.remove(c);
+                    }
+                }
+            }
+            return number;
+        }
+
         /** Every FREE order, written down one by one, the least first. */
-        List<List<Letter>> all(PlainCopy copy) {
-            List<Letter> rest = new ArrayList<>(copy.row.subList(1, copy.row.size() - 1));
+        List<List<Letter>> everyOrder(List<Letter> all) {
+            List<Letter> rest = new ArrayList<>(all);
             rest.sort((a, b) -> Integer.compare(a.mark, b.mark));
             List<List<Letter>> found = new ArrayList<>();
             extend(new ArrayList<>(), rest, found);
@@ -584,13 +607,38 @@ public final class RandomRunsTest {
             return true;
         }
 
-        long orders(int text, int site) {
-            return all(copy(text, site)).size();
+        /** In how many ways all the others can come behind those that stand ahead. */
+        long behind(Set<Letter> ahead, List<Letter> all, Map<Set<Letter>, Long> known) {
+            if (ahead.size() == all.size()) {
+                return 1;
+            }
+            Long found = known.get(ahead);
+            if (found != null) {
+                return found;
+            }
+            long count = 0;
+            for (Letter c : all) {
+                if (mayFollow(ahead, c, all)) {
+                    ahead.add(c);
+                    count += behind(ahead, all, known);
+                    ahead.remove(c);
+                }
+            }
+            known.put(new HashSet<>(ahead), count);
+            return count;
         }
 
-        long number(int text, int site) {
-            PlainCopy copy = copy(text, site);
-            return all(copy).indexOf(copy.row.subList(1, copy.row.size() - 1));
+        /** Whether all that must stand ahead of one do: its LEFT, and those whose RIGHT it is. */
+        boolean mayFollow(Set<Letter> ahead, Letter c, List<Letter> all) {
+            if (ahead.contains(c) || all.contains(c.left) && !ahead.contains(c.left)) {
+                return false;
+            }
+            for (Letter o : all) {
+                if (o.right == c && !ahead.contains(o)) {
+                    return false;
+                }
+            }
+            return true;
         }
     }
 }
