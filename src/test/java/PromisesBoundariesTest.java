@@ -883,8 +883,17 @@ public final class PromisesBoundariesTest extends Checks {
             due("the same", page.same(text, 0, 1), true);
             page.type(text, 2, 0, "ab");
             due("the same letters of another site", page.same(text, 0, 2), false);
+            page.insert(text, 3, 0, 'a');
+            page.insert(text, 4, 0, 'a');
+            page.erase(text, 3, 0);
+            page.erase(text, 4, 0);
+            due("the same letter of another site, both erased", page.same(text, 3, 4), false);
+            page.share(text, 3, 4, true);
+            page.share(text, 4, 3, true);
+            due("both letters at both", page.same(text, 3, 4), true);
             page.tell(text, 3, 1);
-            due("one that WAITS is not in it", page.same(text, 3, 4), true);
+            due("one that WAITS is not in it", page.look(text, 3, 5), 1);
+            due("nor asked for", page.same(text, 3, 4), true);
             due("the other text", page.same(1 - text, 0, 1), true);
         }
     }
