@@ -43,6 +43,7 @@ public final class RandomRunsTest extends Checks {
     /** Many letters: calls that change something among calls that ask, then only such as ask. */
     private void playLong() {
         int inserts = 1 + random.nextInt(5);
+        int erases = 2 + random.nextInt(10);
         int texts = 1 + random.nextInt(2);
         int firstText = random.nextInt(2);
         int asking = random.nextInt(300);
@@ -52,7 +53,7 @@ public final class RandomRunsTest extends Checks {
             if (page.remaining() < asking || random.nextInt(10) < asksOfTen) {
                 ask(text, odd(random.nextInt(5)));
             } else {
-                change(text, inserts);
+                change(text, inserts, erases);
             }
         }
     }
@@ -91,14 +92,15 @@ public final class RandomRunsTest extends Checks {
         return odd(random.nextInt(8) == 0 ? random.nextInt(many + 2) - 1 : random.nextInt(many + 1));
     }
 
-    private void change(int text, int inserts) {
+    /** One call of twenty kinds: so many of them INSERT, so many ERASE, the others tell. */
+    private void change(int text, int inserts, int erases) {
         int site = odd(random.nextInt(5));
         int seen = plain.seen(text, site).size();
         int kind = random.nextInt(20);
         if (kind < inserts) {
             int letter = random.nextInt(40) == 0 ? NO_LETTER[random.nextInt(NO_LETTER.length)] : 32 + random.nextInt(95);
             insert(text, site, around(seen), letter);
-        } else if (kind < 7) {
+        } else if (kind < inserts + erases) {
             erase(text, site, around(seen));
         } else if (kind < 18) {
             tell(text, site, around(plain.messages(text)));
