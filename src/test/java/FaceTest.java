@@ -8,6 +8,7 @@ import java.nio.file.Path;
 import java.util.Arrays;
 import java.util.Set;
 import java.util.TreeSet;
+import java.util.regex.Matcher;
 import java.util.regex.Pattern;
 
 /** The public face of the document, and those rules of LANGUAGE.md that can be read off the file. */
@@ -30,14 +31,22 @@ public final class FaceTest {
         "long number(int, int)"};
     private static final String[] BARRED = {"\\bthrows?\\b", "\\btry\\b", "\\bcatch\\b", "\\bsynchronized\\b",
         "\\bassert\\b", "\\bpackage\\b", "\\bhashCode\\b", "\\w+Exact\\b", "\\b[Rr]andom\\b", "\\bThread\\b",
-        "\\bSystem\\.(?!arraycopy\\b)", "::"};
+        "\\bSystem\\.(?!arraycopy\\b)", "::", "->", "\\bimport\\b", "\\bequals\\b", "\\btoString\\b",
+        "\\bObject\\b", "\\bdouble\\b", "\\bfloat\\b", "\"[^\"]*\" \\+", "\\+ \"", "\\bwhile \\(true\\)",
+        "for \\(;;\\)"};
+    /** A method's or a constructor's first line; the latter has no type. */
+    private static final Pattern HEAD =
+        Pattern.compile("^ {4,8}(?:(?:public|private|static|final) )*(?:([\\w\\[\\]]+) )?\\w+\\(.*\\) \\{$");
+    private static final int MOST_LINES = 60;
     private static int wrong = 0;
 
     public static void main(String[] args) throws IOException {
         methods();
         others();
         nested();
-        words(withoutComments(Files.readString(SOURCE)));
+        String code = withoutComments(Files.readString(SOURCE));
+        words(code);
+        eachMethod(code.split("\n"));
         System.out.println(wrong == 0 ? "the face and the file are as due" : wrong + " faults");
         if (wrong != 0) {
             System.exit(1);
@@ -122,5 +131,29 @@ public final class FaceTest {
         for (String barred : BARRED) {
             fault(Pattern.compile(barred).matcher(code).find(), "the file has '" + barred + "'");
         }
+    }
+
+    /** Methods are short; and only constructors make objects, so that no run of calls can fill the room. */
+    private static void eachMethod(String[] lines) {
+        boolean inConstructor = false;
+        int began = 0;
+        int methods = 0;
+        for (int at = 0; at < lines.length; at++) {
+            Matcher head = HEAD.matcher(lines[at]);
+            if (head.matches()) {
+                inConstructor = head.group(1) == null;
+                began = at;
+                methods++;
+            }
+            fault(lines[at].matches(" {4,8}\\}") && at - began >= MOST_LINES && isEndOf(lines, began, at),
+                "a long method: " + lines[began].trim());
+            fault(lines[at].contains("new ") && !inConstructor, "made outside a constructor: " + lines[at].trim());
+        }
+        fault(methods < FACE.length, "the methods were not found");
+    }
+
+    /** Whether a closing brace stands as far in as the line that began the method. */
+    private static boolean isEndOf(String[] lines, int began, int at) {
+        return lines[began].indexOf(lines[began].trim()) == lines[at].indexOf('}');
     }
 }
