@@ -47,6 +47,7 @@ public final class FaceTest {
         String code = withoutComments(Files.readString(SOURCE));
         words(code);
         eachMethod(code.split("\n"));
+        drawOfShuffle(code.replaceAll("\\s+", " "));
         System.out.println(wrong == 0 ? "the face and the file are as due" : wrong + " faults");
         if (wrong != 0) {
             System.exit(1);
@@ -131,6 +132,14 @@ public final class FaceTest {
         for (String barred : BARRED) {
             fault(Pattern.compile(barred).matcher(code).find(), "the file has '" + barred + "'");
         }
+    }
+
+    /** Every order comes to the same SEQUENCE, so no answer shows Promise 13's draw: it is read here. */
+    private static void drawOfShuffle(String code) {
+        fault(!Pattern.compile("\\bint (\\w+) = seed;.*\\b\\1 = \\1 \\* 1103515245 \\+ 12345;").matcher(code).find(),
+            "the seed does not become seed * 1103515245 + 12345");
+        fault(!Pattern.compile("\\(\\w+ >>> 16\\) % \\w+").matcher(code).find(),
+            "the place is not (seed >>> 16) modulo how many are left");
     }
 
     /** Methods are short; and only constructors make objects, so that no run of calls can fill the room. */
